@@ -232,11 +232,11 @@ public final class GoatCourt {
     // ---- what fits
 
     public int fits() {
-        return isHill() ? answer(evidence.howManyFit()) : refuse(NO_SUCH);
+        return isHill() ? answer(evidence.freshened().howManyFit()) : refuse(NO_SUCH);
     }
 
     public int fit(int i) {
-        int c = evidence.fitting(i);
+        int c = evidence.freshened().fitting(i);
         return c >= 0 ? answer(c) : refuse(NO_SUCH);
     }
 
@@ -244,51 +244,51 @@ public final class GoatCourt {
         if (!isPerson(p)) {
             return refuse(NO_SUCH);
         }
-        return isHour(hour) ? answer(evidence.somewhere(p, hour)) : refuse(NUMBER);
+        return isHour(hour) ? answer(evidence.freshened().somewhere(p, hour)) : refuse(NUMBER);
     }
 
     public int surely(int p, int hour) {
         if (!isPerson(p)) {
             return refuse(NO_SUCH);
         }
-        return isHour(hour) ? answer(evidence.everywhere(p, hour)) : refuse(NUMBER);
+        return isHour(hour) ? answer(evidence.freshened().everywhere(p, hour)) : refuse(NUMBER);
     }
 
     public int lies(int p) {
-        return isPerson(p) ? answer(evidence.untold(p)) : refuse(NO_SUCH);
+        return isPerson(p) ? answer(evidence.freshened().untold(p)) : refuse(NO_SUCH);
     }
 
     public int falseOnes() {
-        return isHill() ? answer(evidence.fewestFalse()) : refuse(NO_SUCH);
+        return isHill() ? answer(evidence.freshened().fewestFalse()) : refuse(NO_SUCH);
     }
 
     public int odds(int c) {
-        return isCase(c) ? answer(evidence.oddsOf(c)) : refuse(NO_SUCH);
+        return isCase(c) ? answer(evidence.freshened().oddsOf(c)) : refuse(NO_SUCH);
     }
 
     public int likeliest() {
-        return isHill() ? answer(evidence.greatestOdds()) : refuse(NO_SUCH);
+        return isHill() ? answer(evidence.freshened().greatestOdds()) : refuse(NO_SUCH);
     }
 
     public int proved(int p, int place, int hour) {
         if (!isPerson(p) || !isPlace(place)) {
             return refuse(NO_SUCH);
         }
-        return isHour(hour) ? answer(evidence.fewestProving(p, place, hour)) : refuse(NUMBER);
+        return isHour(hour) ? answer(evidence.freshened().fewestProving(p, place, hour)) : refuse(NUMBER);
     }
 
     public int ask() {
         if (!isHill()) {
             return refuse(NO_SUCH);
         }
-        return evidence.question() ? answer(evidence.askedGoat * 100 + evidence.askedHour) : refuse(EMPTY);
+        return evidence.freshened().question() ? answer(evidence.askedGoat * 100 + evidence.askedHour) : refuse(EMPTY);
     }
 
     public int askMost() {
         if (!isHill()) {
             return refuse(NO_SUCH);
         }
-        return evidence.question() ? answer(evidence.askedMost) : refuse(EMPTY);
+        return evidence.freshened().question() ? answer(evidence.askedMost) : refuse(EMPTY);
     }
 
     // ---- led and scared
@@ -647,15 +647,16 @@ public final class GoatCourt {
         }
 
         boolean spells(String word) {
-            if (kind != WORD || letters != word.length()) {
-                return false;
-            }
+            return kind == WORD && code == codeOf(word);
+        }
+
+        /** WORDS of up to eight letters have codes of their own. */
+        static long codeOf(String word) {
+            long code = 0;
             for (int i = 0; i < word.length(); i++) {
-                if (bytes[start + i] != word.charAt(i)) {
-                    return false;
-                }
+                code = code * 32 + word.charAt(i) - 'a' + 1;
             }
-            return true;
+            return code;
         }
 
         /** The plant that a letter of the WORD names. */
@@ -696,6 +697,7 @@ public final class GoatCourt {
         final int[] nameNumber = new int[NAMES];
         final int[] lines = new int[GROUPS];
         final int[] facts = new int[STEPS];
+        final long[] reserved = new long[RESERVED.length];
         Hill into;
         int nameCount;
         long newName;
@@ -704,6 +706,9 @@ public final class GoatCourt {
 
         Reader(Tape tape) {
             this.tape = tape;
+            for (int i = 0; i < RESERVED.length; i++) {
+                reserved[i] = Tape.codeOf(RESERVED[i].word);
+            }
         }
 
         int read(Hill hill, int n) {
@@ -809,7 +814,7 @@ public final class GoatCourt {
                 tape.advance();
             }
             into.places++;
-            return told(A_PLACE, number);
+            return tell(A_PLACE, number);
         }
 
         private boolean pathLine() {
@@ -835,7 +840,7 @@ public final class GoatCourt {
                 return false;
             }
             into.people++;
-            return told(A_PERSON, into.people - 1);
+            return tell(A_PERSON, into.people - 1);
         }
 
         private boolean storyLine() {
@@ -848,8 +853,11 @@ public final class GoatCourt {
             }
             tape.advance();
             for (int hour = 0; hour <= into.hours; hour++) {
-                if (hour > 0 && !comma()) {
-                    break;
+                if (hour > 0) {
+                    if (tape.kind != Tape.COMMA) {
+                        break;
+                    }
+                    tape.advance();
                 }
                 int where = named(A_PLACE);
                 if (where < 0) {
@@ -882,7 +890,7 @@ public final class GoatCourt {
             herd.trust[g] = tape.whole;
             tape.advance();
             herd.count++;
-            return told(A_GOAT, g);
+            return tell(A_GOAT, g);
         }
 
         private boolean kindOf(int g) {
@@ -991,7 +999,7 @@ public final class GoatCourt {
                 return false;
             }
             into.law.facts++;
-            return told(A_FACT, into.law.facts - 1);
+            return tell(A_FACT, into.law.facts - 1);
         }
 
         private boolean holdsLine() {
@@ -1037,8 +1045,11 @@ public final class GoatCourt {
         private int factList(int most, boolean unlike) {
             int seen = 0;
             for (int i = 0; i <= most; i++) {
-                if (i > 0 && !comma()) {
-                    return i;
+                if (i > 0) {
+                    if (tape.kind != Tape.COMMA) {
+                        return i;
+                    }
+                    tape.advance();
                 }
                 int fact = named(A_FACT);
                 if (fact < 0) {
@@ -1072,7 +1083,7 @@ public final class GoatCourt {
             courts.wins[courts.count] = tape.whole;
             tape.advance();
             courts.count++;
-            return told(A_COURT, courts.count - 1);
+            return tell(A_COURT, courts.count - 1);
         }
 
         private boolean cheeseLine() {
@@ -1095,28 +1106,16 @@ public final class GoatCourt {
 
         private Reserved reservedHere() {
             for (int i = 0; i < RESERVED.length; i++) {
-                if (tape.spells(RESERVED[i].word)) {
+                if (tape.kind == Tape.WORD && tape.code == reserved[i]) {
                     return RESERVED[i];
                 }
             }
             return Reserved.OTHER;
         }
 
-        private boolean isName() {
-            return tape.kind == Tape.WORD && reservedHere() == Reserved.OTHER;
-        }
-
         private boolean word(String due) {
             if (!tape.spells(due)) {
                 return fail(FORM);
-            }
-            tape.advance();
-            return true;
-        }
-
-        private boolean comma() {
-            if (tape.kind != Tape.COMMA) {
-                return false;
             }
             tape.advance();
             return true;
@@ -1132,8 +1131,11 @@ public final class GoatCourt {
 
         /** The i-th WHOLE of some that are parted by commas. */
         private boolean partIn(int i, int most) {
-            if (i > 0 && !comma()) {
-                return fail(FORM);
+            if (i > 0) {
+                if (tape.kind != Tape.COMMA) {
+                    return fail(FORM);
+                }
+                tape.advance();
             }
             return wholeIn(0, most);
         }
@@ -1148,7 +1150,7 @@ public final class GoatCourt {
         }
 
         private boolean freshName() {
-            if (!isName()) {
+            if (tape.kind != Tape.WORD || reservedHere() != Reserved.OTHER) {
                 return fail(FORM);
             }
             if (find() >= 0) {
@@ -1160,7 +1162,7 @@ public final class GoatCourt {
         }
 
         /** A NAME counts as told behind its LINE, so that no goat is its own mother. */
-        private boolean told(int sort, int number) {
+        private boolean tell(int sort, int number) {
             if (nameCount < NAMES) {
                 names[nameCount] = newName;
                 nameSort[nameCount] = sort;
@@ -1172,7 +1174,7 @@ public final class GoatCourt {
 
         /** The number of what the NAME names, or NONE with a FAULT; it stays the TOKEN that is looked at. */
         private int named(int sort) {
-            if (!isName()) {
+            if (tape.kind != Tape.WORD || reservedHere() != Reserved.OTHER) {
                 fail(FORM);
                 return NONE;
             }
@@ -1306,6 +1308,11 @@ public final class GoatCourt {
                 clueWhat[clues] = what;
                 clues++;
             }
+        }
+
+        /** Whether a goat fears a person, told so or by its kind. */
+        boolean minds(int g, int p) {
+            return kind[g] == SHY || kind[g] != BILLY && bit(fears[g], p) == 1;
         }
 
         /** The CLUES of some goats, both as bits. */
@@ -1588,11 +1595,6 @@ public final class GoatCourt {
             this.hill = hill;
         }
 
-        void run(int c) {
-            prepare(c);
-            play(0, hill.hours - 1);
-        }
-
         void prepare(int c) {
             System.arraycopy(acts.now, 0, lures, 0, 2 * HOURS);
             Arrays.fill(eaten, 0);
@@ -1601,10 +1603,20 @@ public final class GoatCourt {
             System.arraycopy(hill.grows, 0, state, 0, PLACES);
             System.arraycopy(hill.herd.start, 0, state, PLACES, GOATS);
             openPaths();
-            for (int g = 0; g < hill.herd.count; g++) {
-                for (int h = 0; h < hill.hours; h++) {
-                    peopleFeared[g * HOURS + h] = feared(c, g, h);
+            Arrays.fill(peopleFeared, 0);
+            for (int p = 0; p < hill.people; p++) {
+                int i = hill.storyIn(c, p);
+                for (int g = 0; g < hill.herd.count; g++) {
+                    if (i >= 0 && hill.herd.minds(g, p)) {
+                        fearPerson(g, p, i);
+                    }
                 }
+            }
+        }
+
+        private void fearPerson(int g, int p, int i) {
+            for (int h = 0; h < hill.hours; h++) {
+                peopleFeared[g * HOURS + h] |= 1 << hill.toldPlace(p, i, h);
             }
         }
 
@@ -1616,18 +1628,6 @@ public final class GoatCourt {
                     open[hill.pathTo[i]] |= 1 << hill.pathFrom[i];
                 }
             }
-        }
-
-        private int feared(int c, int g, int h) {
-            int kind = hill.herd.kind[g];
-            int where = 0;
-            for (int p = 0; p < hill.people && kind != Herd.BILLY; p++) {
-                int place = hill.placeIn(c, p, h);
-                if (place >= 0 && (kind == Herd.SHY || bit(hill.herd.fears[g], p) == 1)) {
-                    where |= 1 << place;
-                }
-            }
-            return where;
         }
 
         void play(int from, int to) {
@@ -1690,11 +1690,12 @@ public final class GoatCourt {
         }
 
         private int worth(int g, int h, int place) {
-            if (bit(lures[h], place) == 1) {
+            // no calls in here: it is the deepest of all
+            if ((lures[h] >> place & 1) == 1) {
                 return 0;
             }
             for (int rank = 0; rank < hill.herd.orderSize[g]; rank++) {
-                if (countOf(state[place], hill.herd.order[g * PLANTS + rank]) > 0) {
+                if ((state[place] >> 4 * hill.herd.order[g * PLANTS + rank] & 15) > 0) {
                     return 1 + rank;
                 }
             }
@@ -1793,19 +1794,18 @@ public final class GoatCourt {
 
         Day dayOf(int c) {
             if (dayVersion != acts.version || dayCase != c) {
-                day.run(c);
+                day.prepare(c);
+                day.play(0, hill.hours - 1);
                 dayVersion = acts.version;
                 dayCase = c;
             }
             return day;
         }
 
-        private void freshen() {
-            if (truthsVersion == acts.version) {
-                return;
-            }
-            for (int c = 0; c < hill.cases; c++) {
-                day.run(c);
+        /** Runs all DAYS anew, if an ACT has come between. */
+        Evidence freshened() {
+            for (int c = 0; c < hill.cases && truthsVersion != acts.version; c++) {
+                dayOf(c);
                 truths[c] = 0;
                 for (int k = 0; k < hill.herd.clues; k++) {
                     truths[c] |= day.shows(k) ? 1 << k : 0;
@@ -1815,8 +1815,7 @@ public final class GoatCourt {
                 }
             }
             truthsVersion = acts.version;
-            dayVersion = acts.version;
-            dayCase = hill.cases - 1;
+            return this;
         }
 
         private int heardClues() {
@@ -1828,7 +1827,6 @@ public final class GoatCourt {
         }
 
         int howManyFit() {
-            freshen();
             int clues = heardClues();
             int count = 0;
             for (int c = 0; c < hill.cases; c++) {
@@ -1838,7 +1836,6 @@ public final class GoatCourt {
         }
 
         int fitting(int i) {
-            freshen();
             int clues = heardClues();
             int ahead = 0;
             for (int c = 0; c < hill.cases; c++) {
@@ -1853,7 +1850,6 @@ public final class GoatCourt {
         }
 
         int somewhere(int p, int hour) {
-            freshen();
             int clues = heardClues();
             int where = 0;
             for (int c = 0; c < hill.cases; c++) {
@@ -1877,7 +1873,6 @@ public final class GoatCourt {
         }
 
         int untold(int p) {
-            freshen();
             int clues = heardClues();
             int lies = (1 << hill.stories[p]) - 1;
             for (int c = 0; c < hill.cases; c++) {
@@ -1890,7 +1885,6 @@ public final class GoatCourt {
         }
 
         int fewestFalse() {
-            freshen();
             int best = NOTHING;
             int fewest = GOATS + 1;
             for (int goats = 0; goats < 1 << hill.herd.count; goats++) {
@@ -1913,7 +1907,6 @@ public final class GoatCourt {
         }
 
         int oddsOf(int c) {
-            freshen();
             int odds = 1;
             for (int g = 0; g < hill.herd.count; g++) {
                 int clues = hill.herd.cluesOf(acts.now[Acts.HEARD] & 1 << g);
@@ -1938,7 +1931,6 @@ public final class GoatCourt {
         }
 
         int fewestProving(int p, int place, int hour) {
-            freshen();
             int best = NOTHING;
             int fewest = GOATS + 1;
             for (int goats = 0; goats < 1 << hill.herd.count; goats++) {
@@ -2037,7 +2029,14 @@ public final class GoatCourt {
             if (findOne()) {
                 return 1;
             }
-            return findTwo() ? 2 : NOTHING;
+            firstSpot = SPOTS;
+            secondSpot = SPOTS;
+            for (int early = 0; early < day.hill.places * HOURS; early++) {
+                if (isFree(early)) {
+                    findLater(early);
+                }
+            }
+            return firstSpot < SPOTS ? 2 : NOTHING;
         }
 
         private boolean isThere() {
@@ -2105,20 +2104,11 @@ public final class GoatCourt {
             return unlike;
         }
 
-        /** Of all pairs the first by spots; tried by the earlier hour, so that its DAY is played once. */
-        private boolean findTwo() {
-            int spots = day.hill.places * HOURS;
-            firstSpot = spots;
-            secondSpot = spots;
-            for (int early = 0; early < spots; early++) {
-                if (isFree(early)) {
-                    findLater(early, spots);
-                }
-            }
-            return firstSpot < spots;
-        }
-
-        private void findLater(int early, int spots) {
+        /**
+         * Tries pairs by the one of the earlier hour, so that its DAY is played once; keeps the pair that
+         * is the first by spots.
+         */
+        private void findLater(int early) {
             int from = early % HOURS;
             // with a dull one only another in the same hour can do more than that other alone
             int to = dull[early] ? from : hour;
@@ -2126,7 +2116,7 @@ public final class GoatCourt {
             load(plain, from);
             save(lured, from);
             playSaving(lured, from, to);
-            for (int late = 0; late < spots; late++) {
+            for (int late = 0; late < day.hill.places * HOURS; late++) {
                 int h = late % HOURS;
                 boolean behind = h > from && h <= to || h == from && late > early;
                 if (behind && isSooner(early, late) && isFree(late) && changes(late, lured) && isThere()) {
