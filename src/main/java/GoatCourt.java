@@ -47,10 +47,10 @@ public final class GoatCourt {
 
     public GoatCourt() {
         tape = new Tape();
-        reader = new Reader(tape);
         acts = new Acts();
         told = new Hill();
         spare = new Hill();
+        reader = new Reader(tape, spare);
         evidence = new Evidence(acts, told);
         lure = new Lure(acts, told);
     }
@@ -704,8 +704,9 @@ public final class GoatCourt {
         int fault;
         int place;
 
-        Reader(Tape tape) {
+        Reader(Tape tape, Hill into) {
             this.tape = tape;
+            this.into = into;
             for (int i = 0; i < RESERVED.length; i++) {
                 reserved[i] = Tape.codeOf(RESERVED[i].word);
             }

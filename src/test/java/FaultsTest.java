@@ -103,6 +103,7 @@ public final class FaultsTest {
     check.faulty(GOAT + "fears g|", 1);
     check.faulty(LAW + "rule a |b", 1);
     check.faulty(LAW + "rule a if|", 1);
+    check.faulty(LAW + "rule a |;cheese;", 1);
     check.faulty(LAW + "rule a if b |c", 1);
     check.faulty(LAW + "rule a if b,|if", 1);
     check.faulty(LAW + "holds a|,b", 1);

@@ -981,6 +981,39 @@ public final class PromisesTest {
     }
     check.refused(x, "the 17th", x.undo(), 6);
     check.due("the first one stays done", Check.put(x, 0, false), 0);
+    // seventeen unlike ones: those undone are the latest
+    x = on(TWO);
+    x.hear(0, false);
+    x.hear(1, false);
+    for (int i = 0; i < 4; i++) {
+      x.salt(0, i, true);
+      x.dog(2, i, true);
+    }
+    x.hedge(0, true);
+    x.hedge(1, true);
+    x.hear(2, false);
+    x.hear(3, false);
+    x.salt(0, 1, false);
+    x.salt(1, 1, true);
+    x.dog(2, 0, false);
+    check.due("16 of 17", x.size(12), 16);
+    check.due("the fourth SALT", Check.put(x, 3, false), 101);
+    check.due("the first DOG", Check.put(x, 0, true), 201);
+    x.undo();
+    check.due("the first DOG, one undone", Check.put(x, 0, true), 200);
+    x.undo();
+    check.due("the fourth SALT, two undone", Check.put(x, 3, false), Check.THROWS);
+    x.undo();
+    check.due("the fourth SALT, three undone", Check.put(x, 3, false), 3);
+    for (int i = 3; i < 16; i++) {
+      check.fine(x, "undo " + i, x.undo(), true);
+    }
+    check.refused(x, "the 17th", x.undo(), 6);
+    check.due("the first one stays done", x.goat(0, 6), 0);
+    check.due("the second doesn't", x.goat(1, 6), 1);
+    check.due("no SALT", Check.put(x, 0, false), Check.THROWS);
+    check.due("no DOG", Check.put(x, 0, true), Check.THROWS);
+    check.refused(x, "no HEDGE", x.hedge(1, false), 5);
   }
 
   // Promises 48 and 49

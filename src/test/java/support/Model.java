@@ -11,7 +11,7 @@ import java.util.TreeSet;
  * kept that can be reckoned anew. It has the calls of GoatCourt, so that both can be asked the same.
  */
 public final class Model {
-  private static final Set<String> NO_NAMES = Set.of("hill", "place", "path", "person", "story", "goat", "fears",
+  static final Set<String> NO_NAMES = Set.of("hill", "place", "path", "person", "story", "goat", "fears",
       "found", "seen", "shied", "fact", "holds", "rule", "proof", "court", "cheese", "if");
 
   private record Token(int at, char sort, String text) {

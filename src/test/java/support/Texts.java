@@ -119,7 +119,7 @@ public final class Texts {
         }
         name = letters.toString();
       }
-    } while (name.equals("if") || !used.add(name));
+    } while (Model.NO_NAMES.contains(name) || !used.add(name));
     names.get(sort).add(name);
     return name;
   }
