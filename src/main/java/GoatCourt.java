@@ -1458,11 +1458,11 @@ public final class GoatCourt {
                 for (int k = Integer.bitCount(set); k > 0; k--) {
                     scale *= 10;
                 }
-                least[set] = Long.MAX_VALUE;
+                least[set] = NONE;
                 for (int k = 0; k < count; k++) {
                     if (bit(set, k) == 1) {
                         long mean = costs[k] * scale + (10 - wins[k]) * least[set & ~(1 << k)];
-                        if (mean < least[set]) {
+                        if (least[set] == NONE || mean < least[set]) {
                             least[set] = mean;
                             firstOf[set] = k;
                         }

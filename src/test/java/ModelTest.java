@@ -34,16 +34,17 @@ public final class ModelTest {
     Random random = new Random(seed * 7919L + 13);
     GoatCourt court = new GoatCourt();
     Model model = new Model();
-    int left = 480;
-    for (int i = 0; i < 2; i++) {
+    // an object is used for 512 calls; a text and what is asked of it then take up to 73
+    int left = 512;
+    for (int i = 0; i < 2 && left > 160; i++) {
       String text = new Texts(random, size).text();
       left -= load(seed, court, model, text, text.length() - (random.nextInt(20) == 0 ? random.nextInt(60) : 0));
-      for (int k = 0; k < 90 && left > 10; k++) {
+      for (int k = 0; k < 90 && left > 80; k++) {
         left -= call(seed, random, court, model, size);
       }
       String spoiled = Texts.spoil(text, random);
       left -= load(seed, court, model, spoiled, spoiled.length());
-      for (int k = 0; k < 4 && left > 10; k++) {
+      for (int k = 0; k < 4; k++) {
         left -= call(seed, random, court, model, size);
       }
     }

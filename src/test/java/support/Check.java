@@ -6,13 +6,19 @@ public final class Check {
   public static final String THROWS = "throws.NoSuchElementException";
   private int wrong = 0;
   private int made = 0;
+  private String sentence = "";
+
+  /** The words of the document that the answers from now on are due by; printed with wrong ones. */
+  public void by(String words) {
+    sentence = " (by: " + words + ")";
+  }
 
   public void due(String call, Object got, Object want) {
     made++;
     if (!String.valueOf(got).equals(String.valueOf(want))) {
       wrong++;
       if (wrong <= 50) {
-        System.out.println(call + " answered " + got + ", due is " + want);
+        System.out.println(call + " answered " + got + ", due is " + want + sentence);
       }
     }
   }
@@ -58,24 +64,34 @@ public final class Check {
     return x.hill(feed(x, text));
   }
 
-  /** A text is a HILL with so many CASES. */
-  public void taken(String text, int cases) {
+  /** A text is a HILL with so many CASES: an object that has it. */
+  public GoatCourt taken(String text, int cases) {
     GoatCourt x = new GoatCourt();
     int got = hill(x, text);
     due("hill of '" + text + "' (fault " + x.fault() + " at " + x.where() + ")", got, cases);
+    due("trouble() of '" + text + "'", x.trouble(), 0);
     due("fault() of '" + text + "'", x.fault(), 0);
     due("where() of '" + text + "'", x.where(), -1);
+    return x;
   }
 
-  /** A text has a FAULT at the sign ahead of which | stands in it. */
+  /** A text has a FAULT at the sign ahead of which | stands in it, whatever comes behind. */
   public void faulty(String marked, int fault) {
     int at = marked.indexOf('|');
     String text = marked.substring(0, at) + marked.substring(at + 1);
+    faultAt(text, fault, at);
+    if (at < text.length() && text.length() <= 1180) {
+      faultAt(text + ";place A;;", fault, at);
+    }
+  }
+
+  /** A text has a FAULT at a place. */
+  public void faultAt(String text, int fault, int at) {
     GoatCourt x = new GoatCourt();
-    due("hill of '" + marked + "'", hill(x, text), -1);
-    due("trouble() of '" + marked + "'", x.trouble(), 4);
-    due("fault() of '" + marked + "'", x.fault(), fault);
-    due("where() of '" + marked + "'", x.where(), at);
+    due("hill of '" + text + "'", hill(x, text), -1);
+    due("trouble() of '" + text + "'", x.trouble(), 4);
+    due("fault() of '" + text + "'", x.fault(), fault);
+    due("where() of '" + text + "'", x.where(), at);
   }
 
   public void end() {
