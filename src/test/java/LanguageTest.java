@@ -5,7 +5,9 @@ import com.sun.source.tree.ClassTree;
 import com.sun.source.tree.CompilationUnitTree;
 import com.sun.source.tree.ImportTree;
 import com.sun.source.tree.LambdaExpressionTree;
+import com.sun.source.tree.LiteralTree;
 import com.sun.source.tree.MemberReferenceTree;
+import com.sun.source.tree.MemberSelectTree;
 import com.sun.source.tree.MethodInvocationTree;
 import com.sun.source.tree.MethodTree;
 import com.sun.source.tree.NewArrayTree;
@@ -14,7 +16,6 @@ import com.sun.source.tree.SynchronizedTree;
 import com.sun.source.tree.ThrowTree;
 import com.sun.source.tree.Tree;
 import com.sun.source.tree.TryTree;
-import com.sun.source.tree.TypeCastTree;
 import com.sun.source.tree.VariableTree;
 import com.sun.source.util.JavacTask;
 import com.sun.source.util.SourcePositions;
@@ -45,10 +46,21 @@ public final class LanguageTest {
   private static final Path SOURCE = Path.of("src/main/java/GoatCourt.java");
   private static final Path DOC = Path.of("../shared/DOC.md");
   private static final Check check = new Check();
-  private static final Set<String> LIBRARY = Set.of("java.util.Arrays.fill", "java.util.Arrays.copyOf",
-      "java.util.Arrays.copyOfRange", "java.lang.System.arraycopy", "java.lang.Integer.bitCount", "java.lang.Math.min",
-      "java.lang.Math.max", "java.lang.String.length", "java.lang.String.charAt");
-  private static final Set<String> IMPORTS = Set.of("java.util.Arrays", "java.util.NoSuchElementException");
+  /** Rule 4, by class. */
+  private static final Map<String, Set<String>> LIBRARY = Map.of(
+      "java.lang.String", Set.of("length", "charAt", "isEmpty", "equals", "indexOf", "substring", "toCharArray"),
+      "java.lang.StringBuilder", Set.of("append", "charAt", "setCharAt", "setLength", "deleteCharAt", "reverse", "length", "toString"),
+      "java.util.ArrayList", Set.of("add", "get", "set", "remove", "size", "isEmpty", "clear"),
+      "java.util.List", Set.of("add", "get", "set", "remove", "size", "isEmpty", "clear", "of"),
+      "java.util.Iterator", Set.of("hasNext", "next"), "java.lang.Iterable", Set.of("iterator"),
+      "java.lang.Comparable", Set.of("compareTo"), "java.lang.System", Set.of("arraycopy"),
+      "java.util.Arrays", Set.of("copyOf", "copyOfRange", "fill"), "java.lang.Object", Set.of("clone"));
+  private static final Set<String> NUMBERS = Set.of("java.lang.Integer", "java.lang.Long", "java.lang.Math");
+  private static final Set<String> IMPORTS = Set.of("java.util.Arrays", "java.util.NoSuchElementException", "java.util.ArrayList",
+      "java.util.List", "java.util.Iterator");
+  private static final Set<String> EXCEPTIONS = Set.of("IllegalStateException", "IllegalArgumentException",
+      "IndexOutOfBoundsException", "ArithmeticException", "UnsupportedOperationException", "NoSuchElementException",
+      "RuntimeException");
 
   public static void main(String[] args) throws Exception {
     face();
@@ -116,9 +128,9 @@ public final class LanguageTest {
     }
     due("NONE", GoatCourt.class.getField("NONE"), -1);
     for (Class<?> inside : GoatCourt.class.getDeclaredClasses()) {
-      kept(Modifier.isStatic(inside.getModifiers()) && Modifier.isPrivate(inside.getModifiers()), "1, " + inside);
+      boolean seen = Modifier.isPublic(inside.getModifiers()) || Modifier.isProtected(inside.getModifiers());
+      kept(Modifier.isStatic(inside.getModifiers()) && !seen, "1, " + inside);
     }
-    kept(GoatCourt.class.getDeclaredClasses().length + 1 <= 12, "11, classes");
   }
 
   private static void due(String name, Field field, int value) throws Exception {
@@ -132,7 +144,10 @@ public final class LanguageTest {
     private final SourcePositions places;
     private final Map<Element, Set<Element>> calls = new HashMap<>();
     private final Set<Element> own = new java.util.HashSet<>();
+    private final Set<Element> throwing = new java.util.HashSet<>();
+    private final Set<Element> catching = new java.util.HashSet<>();
     private Element method = null;
+    private String methodText = "";
     private boolean inConstructor = false;
     private int classes = 0;
 
@@ -162,26 +177,42 @@ public final class LanguageTest {
           boolean isFinal = field.getModifiers().getFlags().contains(javax.lang.model.element.Modifier.FINAL);
           fields += isStatic ? 0 : 1;
           if (isStatic) {
-            kept(isFinal && Set.of("int", "long", "String", "Reserved", "Reserved[]").contains(field.getType().toString()),
-                "5, " + field.getName());
+            kept(isFinal && isConstant(field), "5, " + field.getName());
           }
         }
         kept(member.getKind() != Tree.Kind.BLOCK, "5, a block, " + line(member));
       }
-      kept(fields <= 20, "11, " + fields + " fields in " + tree.getSimpleName());
+      kept(fields <= 22, "11, " + fields + " fields in " + tree.getSimpleName());
       return super.visitClass(tree, v);
+    }
+
+    /** Constants, the constants of an enum, rows written out, and an enum's values() kept once. */
+    private boolean isConstant(VariableTree field) {
+      String type = field.getType().toString();
+      if (Set.of("int", "long", "boolean", "char", "String").contains(type)) {
+        return true;
+      }
+      if (type.endsWith("[]")) {
+        boolean isRow = Set.of("int[]", "long[]", "char[]", "byte[]").contains(type);
+        String from = String.valueOf(field.getInitializer());
+        return isRow ? field.getInitializer() instanceof NewArrayTree row && row.getInitializers() != null
+            : from.equals(type.replace("[]", "") + ".values()");
+      }
+      // a constant of the enum in which it stands
+      return field.getInitializer() instanceof NewClassTree;
     }
 
     @Override
     public Void visitMethod(MethodTree tree, Void v) {
       method = trees.getElement(getCurrentPath());
       own.add(method);
+      methodText = tree.toString();
       inConstructor = method.getKind() == ElementKind.CONSTRUCTOR;
       calls.put(method, new java.util.HashSet<>());
       kept(tree.getParameters().size() <= 7, "11, " + tree.getName());
       long first = unit.getLineMap().getLineNumber(places.getStartPosition(unit, tree));
       long last = unit.getLineMap().getLineNumber(Math.max(1, places.getEndPosition(unit, tree)));
-      kept(last - first <= 60, "11, " + tree.getName() + " has " + (last - first) + " lines");
+      kept(last - first <= 65, "11, " + tree.getName() + " has " + (last - first) + " lines");
       super.visitMethod(tree, v);
       method = null;
       inConstructor = false;
@@ -192,37 +223,37 @@ public final class LanguageTest {
     public Void visitMethodInvocation(MethodInvocationTree tree, Void v) {
       ExecutableElement called = (ExecutableElement) trees.getElement(getCurrentPath());
       String owner = ((TypeElement) called.getEnclosingElement()).getQualifiedName().toString();
-      boolean isValues = called.getSimpleName().contentEquals("values") && owner.equals("GoatCourt.Reserved");
+      String name = called.getSimpleName().toString();
       if (owner.startsWith("GoatCourt")) {
-        kept(method == null ? isValues : !isValues, "12, " + tree);
+        // values() is kept once, by a static field
+        kept(method == null || !name.equals("values"), "12, " + tree);
         if (method != null) {
           calls.get(method).add(called);
         }
-      } else if (!called.getSimpleName().contentEquals("<init>")) {
-        kept(LIBRARY.contains(owner + "." + called.getSimpleName()), "4, " + owner + "." + called.getSimpleName());
+      } else if (!name.equals("<init>")) {
+        boolean isNumbers = NUMBERS.contains(owner) && !name.endsWith("Exact")
+            && called.getModifiers().contains(javax.lang.model.element.Modifier.STATIC);
+        kept(isNumbers || LIBRARY.getOrDefault(owner, Set.of()).contains(name), "4, " + owner + "." + name);
       }
       return super.visitMethodInvocation(tree, v);
     }
 
     @Override
-    public Void visitNewClass(NewClassTree tree, Void v) {
-      boolean thrown = getCurrentPath().getParentPath().getLeaf() instanceof ThrowTree;
-      kept(tree.getClassBody() == null || method == null, "2, " + line(tree));
-      // what a run makes is counted: all rows are made by constructors
-      kept(thrown || inConstructor || method == null, "12, " + line(tree));
-      return super.visitNewClass(tree, v);
-    }
-
-    @Override
-    public Void visitNewArray(NewArrayTree tree, Void v) {
-      kept(inConstructor || method == null, "12, " + line(tree));
-      return super.visitNewArray(tree, v);
+    public Void visitMemberSelect(MemberSelectTree tree, Void v) {
+      Element chosen = trees.getElement(getCurrentPath());
+      if (chosen != null && chosen.getKind() == ElementKind.FIELD && chosen.getEnclosingElement() instanceof TypeElement owner) {
+        String name = owner.getQualifiedName().toString();
+        kept(name.startsWith("GoatCourt") || name.equals("Array"), "4, " + tree);
+      }
+      return super.visitMemberSelect(tree, v);
     }
 
     @Override
     public Void visitThrow(ThrowTree tree, Void v) {
-      check.due("a throw, " + line(tree), tree.getExpression() + " in " + method.getSimpleName(),
-          "new NoSuchElementException() in put");
+      throwing.add(method);
+      boolean right = tree.getExpression() instanceof NewClassTree made && EXCEPTIONS.contains(made.getIdentifier().toString())
+          && (made.getArguments().isEmpty() || made.getArguments().size() == 1 && made.getArguments().get(0) instanceof LiteralTree);
+      kept(right && !inConstructor, "6, " + line(tree));
       return super.visitThrow(tree, v);
     }
 
@@ -233,16 +264,12 @@ public final class LanguageTest {
       kept(!joins, "10, " + line(tree));
       if (tree.getKind() == Tree.Kind.DIVIDE || tree.getKind() == Tree.Kind.REMAINDER) {
         String by = tree.getRightOperand().toString();
-        // a divisor is written out, or the line ahead tests it
-        kept(Set.of("HOURS", "16", "4", "weights[p]", "stories[p]").contains(by), "7, " + by + ", " + line(tree));
+        // a divisor is a constant, or its method tests it
+        boolean tested = methodText.contains(by + " <= 0") || methodText.contains(by + " == 0") || methodText.contains(by + " > 0")
+            || methodText.contains(by + " != 0") || methodText.contains(by + " < 1");
+        kept(by.matches("[0-9]+|[A-Z_]+") || tested, "7, " + by + ", " + line(tree));
       }
       return super.visitBinary(tree, v);
-    }
-
-    @Override
-    public Void visitTypeCast(TypeCastTree tree, Void v) {
-      kept(tree.getType().toString().equals("byte"), "6, " + line(tree));
-      return super.visitTypeCast(tree, v);
     }
 
     @Override
@@ -259,14 +286,15 @@ public final class LanguageTest {
 
     @Override
     public Void visitTry(TryTree tree, Void v) {
-      no("6, " + line(tree));
-      return null;
+      catching.add(method);
+      kept(tree.getFinallyBlock() == null && tree.getResources().isEmpty(), "6, " + line(tree));
+      return super.visitTry(tree, v);
     }
 
     @Override
     public Void visitCatch(CatchTree tree, Void v) {
-      no("6, " + line(tree));
-      return null;
+      kept(EXCEPTIONS.contains(tree.getParameter().getType().toString()), "6, " + line(tree));
+      return super.visitCatch(tree, v);
     }
 
     @Override
@@ -281,9 +309,12 @@ public final class LanguageTest {
       return null;
     }
 
-    /** Calls go at most eight deep, and none comes back to itself. */
+    /** Calls that are no recursion go at most eight deep; no method catches that throws. */
     void finish() {
-      kept(classes <= 12, "11, " + classes + " classes");
+      kept(classes <= 13, "11, " + classes + " classes");
+      for (Element e : catching) {
+        kept(!throwing.contains(e), "6, " + e + " throws and catches");
+      }
       for (Element e : own) {
         List<Element> path = deepest(e, new ArrayList<>());
         kept(path.size() <= 8, "11, depth " + path.size() + ": " + path);
@@ -292,7 +323,6 @@ public final class LanguageTest {
 
     private List<Element> deepest(Element e, List<Element> ahead) {
       if (ahead.contains(e)) {
-        no("8, " + e + " comes back to itself");
         return List.of();
       }
       ahead.add(e);
