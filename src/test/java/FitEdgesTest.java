@@ -582,9 +582,11 @@ public final class FitEdgesTest {
         "hill hours 5 plants 2;place q 1,2;goat b plain likes ab at q trust 3;place j 2,1;goat u shy likes ab at j trust 8;person w;"
             + "path j q;story w q,q,q;place f 8,0;path f j;goat g kid u likes b at q trust 7;place k 2,5;path k f;fears g w",
         "hill hours 4 plants 1;place c 2;place b 1;place f 2;path b c;place z 2;person l;story l c,b;path z f;path f c;story l f;"
-            + "story l c,z,z,b;path f b;goat p shy likes a at z trust 3"};
-    int[][] salts = {{2, 2}, {0, 0}, {2, 2}, {1, 3}};
-    int[][] asked = {{0, 1, 2, 3, 2, 201}, {0, 0, 3, 4, 1, 304}, {0, 2, 1, 4, 101, 103}, {0, 0, 0, 2, 1, 200}};
+            + "story l c,z,z,b;path f b;goat p shy likes a at z trust 3",
+        "hill hours 5 plants 1;place a 0;place r 0;place m 0;place c 0;path a r;path r m;path m c;path r c;path a c;person d;"
+            + "person t;story d r;story t c;goat b billy likes a at r trust 7;goat q shy likes a at r trust 8"};
+    int[][] salts = {{2, 2}, {0, 0}, {2, 2}, {1, 3}, {1, 3}};
+    int[][] asked = {{0, 1, 2, 3, 2, 201}, {0, 0, 3, 4, 1, 304}, {0, 2, 1, 4, 101, 103}, {0, 0, 0, 2, 1, 200}, {0, 0, 0, 3, 0, 3}};
     for (int i = 0; i < hills.length; i++) {
       GoatCourt x = on(hills[i]);
       Model model = new Model();
